@@ -1198,7 +1198,7 @@ public final class LiquoriceRoads {
                 int operand = law.operands[at];
                 if (code == Kind.ELSE) {
                     at = Math.max(at, operand);
-                } else if (code == Kind.NUMBER || Kind.isName(code)) {
+                } else if (code == Kind.NUMBER || code <= Kind.FIRST) {
                     if (top < STACK) {
                         stack[top] = code == Kind.NUMBER ? operand : named(code, goer, road);
                         top++;
@@ -1870,8 +1870,8 @@ public final class LiquoriceRoads {
                 System.arraycopy(order, 0, largest, 0, count);
             }
             for (int goer = 0; goer < told.goers && count < GOERS && most < told.goers; goer++) {
-                int much = (gone >> goer & 1) == 0 ? suckedAt(goer, road) : MOST_THICK + 1;
-                if (much <= now.thick[road]) {
+                if ((gone >> goer & 1) == 0 && suckedAt(goer, road) <= now.thick[road]) {
+                    int much = suckedAt(goer, road);
                     order[count] = goer;
                     now.thick[road] -= much;
                     follow(road, count + 1, gone | 1 << goer);

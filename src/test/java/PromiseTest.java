@@ -47,6 +47,7 @@ public final class PromiseTest {
         p13PlayedLimits();
         p14Years();
         p14YearsOfNothing();
+        p14YearsOfCoil();
         p15Undo();
         p15UndoTold();
     }
@@ -293,6 +294,17 @@ public final class PromiseTest {
         fault("go 4294967296 by 2;", 2, 3);
         fault("road 7 to 7 long 9 thick 99;", 0, NONE);
         fault("road 0 to 0 long 1 thick 1;", 0, NONE);
+        fault("road 8 to 0 long 1 thick 1;", 2, 5);
+        fault("road 0 to 8 long 1 thick 1;", 2, 10);
+        fault("goer 8 mouth 1;", 2, 5);
+        fault("goer 0 mouth 0;", 2, 13);
+        fault("relay 16;", 2, 6);
+        fault("coil 0;", 2, 5);
+        fault("coil 100;", 2, 5);
+        fault("day 61;", 2, 4);
+        fault("road 0 to 1 long 0 thick 1;", 2, 17);
+        fault("road 0 to 1 long 1 thick 0;", 2, 25);
+        fault("road 0 to 1 long 1 thick 100;", 2, 25);
         fault("road 0 to 1 thick 1 long 1;", 1, 12);
         fault("road 0 to 1 long 10 thick 100;", 2, 17);
         fault("goer 7 mouth 9;", 0, NONE);
@@ -359,6 +371,17 @@ public final class PromiseTest {
         fault("sucks (((((((common 1 of -2)))))));", 3, 25);
         fault("sucks (((((((common 1 of 2 + (1))))))));", 0, NONE);
         fault("sucks (((((((roads 1 + roads 2)))))));", 0, NONE);
+        fault("sucks " + "roads ".repeat(8) + "1;", 0, NONE);
+        fault("sucks " + "roads ".repeat(9) + "1;", 3, 54);
+        fault("sucks " + "common ".repeat(8) + "1" + " of 2".repeat(8) + ";", 0, NONE);
+        fault("sucks " + "common ".repeat(9) + "1", 3, 62);
+        fault("sucks " + "common 1 of ".repeat(8) + "1;", 0, NONE);
+        fault("sucks " + "common 1 of ".repeat(9) + "1;", 3, 102);
+        fault("sucks if " + "not ".repeat(7) + "1=1 then 1 else 2 end;", 0, NONE);
+        fault("sucks if " + "not ".repeat(8) + "1=1 then 1 else 2 end;", 3, 37);
+        fault("sucks if not 1=1 and not 1=1 or not 1=1 then - - - - - - - 1 else - - - - - - - 1 end;", 0, NONE);
+        fault("sucks " + "if 1=1 then ".repeat(8) + "1" + " else 2 end".repeat(8) + ";", 0, NONE);
+        fault("sucks " + "if 1=1 then ".repeat(9) + "1", 3, 102);
     }
 
     private static void p07FaultCount() {
@@ -527,6 +550,11 @@ public final class PromiseTest {
         due("12 beyond", x.day(40), NONE);
         due("12 nothing is done", x.is(0), 9960);
         due("12 days", x.day(30), 30);
+        due("12 just to the last", x.day(9), 9);
+        due("12 day", x.is(0), 9999);
+        for (int i = 0; i < 9; i++) {
+            x.undo();
+        }
         due("13 those that can pass do", x.played(0), 1);
         due("13 day", x.is(0), 9999);
         due("12 went", x.ofGoer(0, 2), 9999);
@@ -648,6 +676,19 @@ public final class PromiseTest {
         due("14 then it is laid anew", y.years(seed, 2), 0);
         due("14 thick", y.of(0, 3), 9);
         due("14 coil", y.is(3), 18);
+    }
+
+    /** 283, 1587: nothing can go, COILED by 4; 8154, 5244, then 11278: a DAY. */
+    private static void p14YearsOfCoil() {
+        for (int full = 990; full <= 999; full++) {
+            LiquoriceRoads x = new LiquoriceRoads();
+            for (int i = 0; i < 9; i++) {
+                x.coil(99);
+            }
+            x.coil(full - 911);
+            x.years(0, 2);
+            due("14 coil of " + full, x.is(3), full + 4 <= 999 ? full + 4 : full);
+        }
     }
 
     private static void p15Undo() {
@@ -793,6 +834,9 @@ public final class PromiseTest {
             {"if 1=2 or 3#4 and not 1>2 then 5 else 6 end", 5}, {"if 1=1 or 1=1 and 1=2 then 5 else 6 end", 5},
             {"if 1=2 and 1=1 or 1=1 then 5 else 6 end", 5}, {"if not 1<2 and 1=2 then 5 else 6 end", 6},
             {"if not not 1<2 then 3 else 4 end", 3}, {"if not 1<2 or 1=1 then 3 else 4 end", 3},
+            {"if not 1<=2 then 5 else 6 end", 6}, {"if not 2>=1 then 5 else 6 end", 6}, {"if not 1=1 then 5 else 6 end", 6},
+            {"if not 1#2 then 5 else 6 end", 6}, {"if not 2>1 then 5 else 6 end", 6}, {"if not 1#1 then 5 else 6 end", 5},
+            {"if 1<=2 and 2>=1 and 1=1 and 1#2 and 2>1 and 1<2 then 5 else 6 end", 5},
             {"1+if 1<2 then if 2<1 then 3 else 4 end else 5 end*2", 9}, {"if 1+1=2*1 then 1+1 else 2 end+1", 3}};
         for (Object[] law : laws) {
             law((String) law[0], (int) law[1]);
@@ -974,6 +1018,12 @@ public final class PromiseTest {
         due("24 a way of nothing", x.widest(4, 5), 0);
         x.road(4, 5, 9, 99);
         due("24 the greatest", x.widest(4, 5), 99);
+        LiquoriceRoads y = new LiquoriceRoads();
+        for (int town = 7; town > 0; town--) {
+            y.road(town, town - 1, 9, 90 + town);
+        }
+        due("24 seven roads", y.widest(0, 7), 91);
+        due("24 seven roads", y.widest(7, 0), 91);
     }
 
     private static void p25FlowAnd26Cut() {
@@ -1218,6 +1268,11 @@ public final class PromiseTest {
         y.goer(0, 1);
         y.goer(0, 1);
         due("33 in some order", y.crowd(0, NONE), 3);
+        LiquoriceRoads u = ruled("sucks who*98+1;");
+        u.road(0, 1, 1, 99);
+        u.goer(0, 1);
+        u.goer(0, 1);
+        due("33 nobody goes twice", u.crowd(0, NONE), 1);
         due("33 first", y.crowd(0, 0), 0);
         LiquoriceRoads z = ruled("sucks if who=2 then 5 else if thick>5 then 7 else 2 end end;");
         z.road(0, 1, 1, 9);
@@ -1314,6 +1369,17 @@ public final class PromiseTest {
             due("40 said " + i, x.said(0, 0, 0), i);
         }
         due("40 the ninth", x.said(0, 0, 0), -2);
+        LiquoriceRoads y = shire();
+        y.goer(0, 5);
+        y.goer(0, 5);
+        Tapes.text(y, "sucks who*10+way;");
+        y.said(1, 2, 12);
+        y.image();
+        y.said(NONE, 0, 0);
+        y.said(0, 1, 99);
+        due("41 none", y.whose(), 0);
+        y.back();
+        due("41 as in the image", y.whose(), 1);
         due("40 about", x.about(5), 8);
         due("40 no step", x.about(4), 0);
     }
