@@ -1579,14 +1579,14 @@ public final class LiquoriceRoads {
             return sum;
         }
 
-        /** As much can flow as the thinnest set between the two lets out, so all sets are looked at. */
+        /** As much can flow as the thinnest set between the two lets out; the lowest is looked at first, and stays of like ones. */
         int thinnestSet(int a, int b) {
             int found = 1 << a;
             int thinnest = thickAround(found);
             for (int set = 0; set < SETS; set++) {
                 if ((set >> a & 1) == 1 && (set >> b & 1) == 0) {
                     int thick = thickAround(set);
-                    if (thick < thinnest || thick == thinnest && set < found) {
+                    if (thick < thinnest) {
                         found = set;
                         thinnest = thick;
                     }

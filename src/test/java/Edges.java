@@ -48,10 +48,12 @@ abstract class Edges {
         for (int what = 0; what < 7; what++) {
             s.append(x.about(what)).append(' ').append(x.is(what % 4)).append(' ');
         }
-        for (int road = 0; road < x.about(0); road++) {
+        int roads = x.about(0);
+        for (int road = 0; road < roads; road++) {
             s.append(x.of(road, 3)).append(' ');
         }
-        for (int goer = 0; goer < x.about(1); goer++) {
+        int goers = x.about(1);
+        for (int goer = 0; goer < goers; goer++) {
             s.append(x.ofGoer(goer, 0)).append(' ').append(x.ofGoer(goer, 2)).append(' ');
         }
         int goings = x.book(NONE, 0);

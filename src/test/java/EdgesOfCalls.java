@@ -17,6 +17,7 @@ final class EdgesOfCalls extends Edges {
         p05EndRefused();
         p06Text();
         p06TextRefused();
+        p06TextBehindSpoilt();
         p06TextFull();
         p07Fault();
         p07FaultRefused();
@@ -237,6 +238,31 @@ final class EdgesOfCalls extends Edges {
         due("nothing of it is left", Tapes.text(x, "day 1;"), 1);
         due("one clause", x.played(1), NONE);
         due("coil", x.is(3), 25);
+    }
+
+    /** However many spoilt ones came ahead of it, and however long they were. */
+    private static void p06TextBehindSpoilt() {
+        says(6, "NONE: it has a FAULT; or (the tape stays) there are 4");
+        LiquoriceRoads x = small();
+        String sum = "sucks 5" + "+1-1".repeat(72);
+        for (int i = 0; i < 5; i++) {
+            due("a long one that is spoilt", Tapes.text(x, sum + "+?"), NONE);
+        }
+        due("a long one that isn't", Tapes.text(x, sum + ";"), 0);
+        x.by(0);
+        due("its sucks", x.sucks(0, 0), 5);
+        String[] spoilt = {"sucks -3", "sucks 7+3", "sucks roads 0", "sucks 7-(7*7)", "sucks 8;swells 8", "swells -3", "coil 1;sucks 1"};
+        for (String text : spoilt) {
+            x.back();
+            x.road(0, 1, 2, 9);
+            x.goer(0, 3);
+            due("spoilt", Tapes.text(x, text), NONE);
+            rule(x, "sucks 6;");
+            due("sucks behind " + text, x.sucks(0, 0), 6);
+            due("swells behind " + text, x.of(0, 5), 0);
+            due("nothing to be done behind " + text, x.played(0), NONE);
+            due("coil behind " + text, x.is(3), 20);
+        }
     }
 
     private static void p06TextFull() {

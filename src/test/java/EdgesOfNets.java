@@ -563,6 +563,17 @@ final class EdgesOfNets extends Edges {
             }
             due("all joined", y.colours(), a + 1);
         }
+        for (int hub = 0; hub < 8; hub++) {
+            LiquoriceRoads u = new LiquoriceRoads();
+            for (int i = 1; i < 8; i++) {
+                u.road(hub, (hub + i) % 8, 1, 1);
+            }
+            due("one that has all others beside it", u.colours(), 2);
+            for (int i = 1; i < 8; i++) {
+                u.road((hub + i) % 8, (hub + i % 7 + 1) % 8, 1, 1);
+            }
+            due("and an odd ring round it", u.colours(), 4);
+        }
         LiquoriceRoads z = new LiquoriceRoads();
         for (int town = 0; town < 8; town++) {
             z.road(town, (town + 1) % 8, 1, 1);

@@ -457,21 +457,27 @@ final class EdgesOfTerms extends Edges {
         x.road(1, 2, 2, 19);
         x.goer(0, 1);
         x.goer(2, 1);
-        x.day(9);
-        String[] states = new String[40];
-        int count = 0;
-        for (int i = 0; i < 7; i++) {
-            states[count++] = state(x);
-            x.day(1);
-            states[count++] = state(x);
-            x.years(i * 1111, 9);
-            states[count++] = state(x);
-            x.coil(3);
+        x.day(3);
+        String[] states = new String[6];
+        for (int i = 0; i < 6; i++) {
+            states[i] = state(x);
+            due("step " + i + " is done", takesStep(x, i), true);
         }
-        while (count > 0) {
-            count--;
+        due("all of them", x.about(4), 9);
+        for (int i = 5; i >= 0; i--) {
             x.undo();
-            unchanged(x, states[count]);
+            unchanged(x, states[i]);
+        }
+    }
+
+    /** A DAY, YEARS, COILED, GONE, LAID ANEW where it went, and a DAY again. */
+    private static boolean takesStep(LiquoriceRoads x, int which) {
+        switch (which) {
+            case 1: return x.years(1111, 9) >= 0;
+            case 2: return x.coil(3);
+            case 3: return x.go(0, Integer.numberOfTrailingZeros(x.ofGoer(0, 3))) >= 0;
+            case 4: return x.relay(x.book(x.book(NONE, 0) - 1, 2));
+            default: return x.day(1) > 0;
         }
     }
 
@@ -498,6 +504,19 @@ final class EdgesOfTerms extends Edges {
         due("goer 0 as ahead", x.ofGoer(0, 0), 0);
         due("two roads", x.about(0), 2);
         due("two goers", x.about(1), 2);
+        LiquoriceRoads y = small();
+        y.image();
+        y.road(1, 2, 3, 7);
+        y.goer(1, 6);
+        y.go(1, 1);
+        y.back();
+        y.coil(1);
+        y.road(1, 2, 3, 5);
+        y.goer(1, 6);
+        due("one step, ahead of which others were there", y.undo(), 0);
+        due("road 1 as told since", y.of(1, 3), 5);
+        due("goer 1 as told since", y.ofGoer(1, 0), 1);
+        due("it never went", y.ofGoer(1, 2), 0);
     }
 
     private static void p15NoSteps() {

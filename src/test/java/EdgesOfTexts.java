@@ -66,6 +66,10 @@ final class EdgesOfTexts extends Edges {
         x.by(1);
         due("the long sum is 5", x.sucks(0, 0), 5);
         fault("a".repeat(300), 1, 0);
+        for (String token : new String[] {";", "(", "-", "?", "1"}) {
+            fault(token.repeat(300), 1, 0);
+        }
+        fault("sucks " + "-".repeat(294), 3, 14);
         fault("coil 1;" + " ".repeat(292) + "a", 1, 299);
         fault("coil 1;" + " ".repeat(287) + "coil 1", 1, 300);
         fault("sucks " + "0".repeat(294), 1, 300);
@@ -523,6 +527,12 @@ final class EdgesOfTexts extends Edges {
             fault("" + none, 1, 0);
             fault("sucks 1" + none + ";", 1, 7);
             fault("coil 1; " + none, 1, 8);
+            fault("sucks " + none + "1;", 1, 6);
+            fault("sucks if " + none + "1=1 then 1 else 1 end;", 1, 9);
+            fault("sucks if 1" + none + "1 then 1 else 1 end;", 1, 10);
+            fault("sucks if 1=1 " + none + " 1=1 then 1 else 1 end;", 1, 13);
+            fault("sucks common 1 " + none + " 1;", 1, 15);
+            fault("coil " + none + "1;", 1, 5);
         }
         for (String word : new String[] {"foo", "Thick", "firs", "firsts", "to", "by", "of", "then", "end", "road", "goer", "sucks"}) {
             fault("sucks " + word + ";", 1, 6);
