@@ -17,12 +17,14 @@ public final class ModelTest {
     private final List<String> log = new ArrayList<>();
     private final Method[] face = face();
     private final boolean tame;
+    private final boolean late;
     private int calls = 0;
 
     private ModelTest(long seed) {
         dice = new Random(seed);
         writer = new Writer(dice);
         tame = dice.nextInt(4) > 0;
+        late = dice.nextInt(50) == 0;
     }
 
     private static Method[] face() {
@@ -58,10 +60,24 @@ public final class ModelTest {
                 well = call("goer", town(), 1 + dice.nextInt(9));
             }
         }
+        well = well && (!late || ages());
         while (well && calls < CALLS) {
             well = nextCalls();
         }
         return well;
+    }
+
+    /** Random calls alone hardly come to the last DAYS, to GOERS that went so often, or to so much of a COIL. */
+    private boolean ages() throws Exception {
+        boolean alike = writes("sucks " + dice.nextInt(2) + ";swells 9;") && call("by", 0);
+        for (int i = 0; i < 9 && alike; i++) {
+            alike = call("coil", 99);
+        }
+        alike = alike && call("coil", 80 + dice.nextInt(9));
+        for (int i = 0; i < 166 && alike; i++) {
+            alike = call("day", 60);
+        }
+        return alike && call("day", 20 + dice.nextInt(20));
     }
 
     private boolean nextCalls() throws Exception {
